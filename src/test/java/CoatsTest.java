@@ -18,6 +18,8 @@ public final class CoatsTest {
         test.chairQueries();
         test.claimants();
         test.claimantsOfOneMinute();
+        test.coatsOfGuestZero();
+        test.threeCoats();
         test.checks.close("CoatsTest");
     }
 
@@ -183,5 +185,53 @@ public final class CoatsTest {
         hall.takeCoat(3);
         hall.leaveCoat(1, 5);
         bothClaimants(hall, 5, 2);
+    }
+
+    private void coatsOfGuestZero() {
+        HatReservations hall = Halls.with(0, 0, 0, 0, 0, 0, 0, 0);
+        hall.placeHat(3, 10);
+        hall.leaveCoat(1, 10);
+        hall.leaveCoat(0, 10);
+        bothClaimants(hall, 10, 1);
+        checks.promise(18, "coatCount");
+        checks.due(2, () -> hall.coatCount(10));
+        checks.promise(14, "leaveCoat");
+        checks.due(2, () -> hall.leaveCoat(2, 10));
+        checks.promise(15, "takeCoat");
+        checks.due(10, () -> hall.takeCoat(1));
+        checks.promise(19, "coatOwner");
+        checks.due(0, () -> hall.coatOwner(10, 0));
+        checks.due(2, () -> hall.coatOwner(10, 1));
+        checks.due(MISSING, () -> hall.coatOwner(10, 2));
+        bothClaimants(hall, 10, 0);
+        checks.promise(5, "removeHat");
+        checks.due(1, () -> hall.removeHat(3));
+        checks.due("A.........", () -> Halls.line(hall, 1));
+        checks.due(1, () -> hall.coatCount(10));
+    }
+
+    private void threeCoats() {
+        checks.promise(37, "lapsedTotal");
+        HatReservations hall = Halls.with(0, 0, 0, 0, 0, 0, 0, 0);
+        hall.placeHat(3, 10);
+        hall.leaveCoat(0, 10);
+        hall.leaveCoat(1, 10);
+        hall.leaveCoat(2, 10);
+        hall.placeHat(0, 0);
+        hall.placeHat(1, 1);
+        String before = Halls.state(hall);
+        hall.removeHat(3);
+        checks.due("C.........", () -> Halls.line(hall, 1));
+        checks.due(2, () -> hall.lapsedTotal());
+        checks.due(0, () -> hall.coatCount(10));
+        hall.undo();
+        checks.due(before, () -> Halls.state(hall));
+        checks.due(0, () -> hall.lapsedTotal());
+        hall.placeHat(2, 2);
+        hall.removeHat(3);
+        checks.due("..........", () -> Halls.line(hall, 1));
+        checks.due(3, () -> hall.lapsedTotal());
+        checks.due(0, () -> hall.coatCount(10));
+        checks.due(true, () -> hall.isConsistent());
     }
 }
