@@ -956,9 +956,9 @@ public final class HatReservations {
 
     /** The halls as they were before the latest changes, in a ring with one spare place. */
     private static final class History {
+        /** The spare place keeps a run that fails from costing the oldest change. */
         private static final int PLACES = MOST_UNDOS + 1;
 
-        /** The spare place keeps a run that fails from costing the oldest change. */
         private final Hall[] halls = new Hall[PLACES];
         private int spare = 0;
         int count = 0;
@@ -1089,6 +1089,7 @@ public final class HatReservations {
     private static final class CommandText {
         private final char[] characters = new char[MOST_CHARACTERS];
         private int length = 0;
+        /** Holds some command at each place from the start, so that no place is ever null. */
         final Command[] commands = new Command[MOST_COMMANDS];
         final int[] firsts = new int[MOST_COMMANDS];
         final int[] seconds = new int[MOST_COMMANDS];
