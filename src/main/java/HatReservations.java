@@ -331,9 +331,18 @@ public final class HatReservations {
             throw new IllegalArgumentException("the text is not a command text");
         }
         history.prepare(hall);
-        if (!carryOutCommands()) {
-            history.takeBack(hall);
-            throw new IllegalStateException("a command fails");
+        for (int index = 0; index < MOST_COMMANDS && index < commandText.commandCount; index++) {
+            Command command = commandText.commands[index];
+            int first = commandText.firsts[index];
+            int second = commandText.seconds[index];
+            int refusal = command.refusalIn(hall, first, second);
+            if (refusal != 0) {
+                history.takeBack(hall);
+                lastFailedCommand = index;
+                lastFailedException = refusal;
+                throw new IllegalStateException("a command fails");
+            }
+            command.carryOutIn(hall, first, second);
         }
         history.keep();
         return commandText.commandCount;
@@ -454,23 +463,6 @@ public final class HatReservations {
         }
     }
 
-    /** Answers false, with the failure set, as soon as a command fails. */
-    private boolean carryOutCommands() {
-        for (int index = 0; index < MOST_COMMANDS && index < commandText.commandCount; index++) {
-            Command command = commandText.commands[index];
-            int first = commandText.firsts[index];
-            int second = commandText.seconds[index];
-            int refusal = command.refusalIn(hall, first, second);
-            if (refusal != 0) {
-                lastFailedCommand = index;
-                lastFailedException = refusal;
-                return false;
-            }
-            command.carryOutIn(hall, first, second);
-        }
-        return true;
-    }
-
     /**
      * Everything that changes can change, so that undo and the snapshot are copies of one object.
      * A refusal is 0 where a call may go on, else the position in the throws list of its method.
@@ -525,10 +517,6 @@ public final class HatReservations {
 
         static boolean hasChair(int chair) {
             return chair >= 0 && chair < CHAIRS;
-        }
-
-        static long bitOf(int chair) {
-            return 1L << chair;
         }
 
         // ---- refusals
@@ -638,9 +626,9 @@ public final class HatReservations {
             long covered = coveredChairs();
             hatChairs[guest] = chair;
             touchTimes[guest] = time;
-            covers[guest] = bitOf(chair) | reach(chair, -1, brims[guest], covered)
+            covers[guest] = 1L << chair | reach(chair, -1, brims[guest], covered)
                     | reach(chair, 1, brims[guest], covered);
-            return coverOf(guest);
+            return Long.bitCount(covers[guest]);
         }
 
         /** The chairs that a brim covers on one side of its chair. */
@@ -652,7 +640,7 @@ public final class HatReservations {
                 if (nextColumn < 0 || nextColumn >= COLUMNS) {
                     return reached;
                 }
-                long next = bitOf(chair + step * direction);
+                long next = 1L << (chair + step * direction);
                 if ((covered & next) != 0) {
                     return reached;
                 }
@@ -740,7 +728,7 @@ public final class HatReservations {
 
         private void offerChairs(long chairs) {
             for (int chair = 0; chair < CHAIRS; chair++) {
-                if ((chairs & bitOf(chair)) != 0 && covererAt(chair) == NONE) {
+                if ((chairs >>> chair & 1L) != 0 && covererAt(chair) == NONE) {
                     offerChair(chair);
                 }
             }
@@ -788,8 +776,9 @@ public final class HatReservations {
             if (hatChair == chair) {
                 return liftHat(defender);
             }
-            long lower = bitOf(chair) - 1;
-            long beyond = chair < hatChair ? lower | bitOf(chair) : ~lower;
+            long bit = 1L << chair;
+            long lower = bit - 1;
+            long beyond = chair < hatChair ? lower | bit : ~lower;
             long uncovered = covers[defender] & beyond;
             covers[defender] &= ~beyond;
             return uncovered;
@@ -830,7 +819,7 @@ public final class HatReservations {
 
         int covererAt(int chair) {
             for (int guest = 0; guest < MOST_GUESTS; guest++) {
-                if ((covers[guest] & bitOf(chair)) != 0) {
+                if ((covers[guest] >>> chair & 1L) != 0) {
                     return guest;
                 }
             }

@@ -1,6 +1,10 @@
 import java.io.IOException;
 import java.nio.file.Files;
 import java.nio.file.Path;
+import java.util.Map;
+import java.util.Set;
+import java.util.TreeMap;
+import java.util.TreeSet;
 import java.util.regex.Matcher;
 import java.util.regex.Pattern;
 
@@ -14,6 +18,9 @@ public final class LanguageTest {
         "(?m)^ *(private )?static (?!final|int|long|boolean|char|void|double|float)",
     };
 
+    private static final Pattern METHOD_HEAD =
+            Pattern.compile("^ {4,8}(?:public |private |static )*(?:int|long|boolean|char|void|double|float|Command) (\\w+)\\(");
+
     public static void main(String[] args) throws IOException {
         Checks checks = new Checks();
         checks.promise(0, "LANGUAGE.md");
@@ -26,7 +33,44 @@ public final class LanguageTest {
         Matcher thrown = Pattern.compile("throw (?!new [A-Za-z]+Exception\\(\"[^\"]+\"\\);)").matcher(code);
         checks.same(false, thrown.find());
         checks.same("no long method", longMethod(code));
+        System.out.println("the deepest calls go " + deepestCall(callsByMethod(code)) + " deep");
+        checks.same(true, deepestCall(callsByMethod(code)) <= 8);
         checks.close("LanguageTest");
+    }
+
+    /** The names that each method calls, as if no two methods had one name. */
+    private static Map<String, Set<String>> callsByMethod(String code) {
+        Map<String, Set<String>> calls = new TreeMap<>();
+        String method = null;
+        for (String line : code.split("\n")) {
+            Matcher head = METHOD_HEAD.matcher(line);
+            if (head.find()) {
+                method = head.group(1);
+                calls.putIfAbsent(method, new TreeSet<>());
+            } else if (method != null) {
+                Matcher call = Pattern.compile("\\b([a-z]\\w*)\\(").matcher(line);
+                while (call.find()) {
+                    calls.get(method).add(call.group(1));
+                }
+            }
+        }
+        return calls;
+    }
+
+    private static int deepestCall(Map<String, Set<String>> calls) {
+        Map<String, Integer> depths = new TreeMap<>();
+        // each round lets the depths grow by one call, so a recursion grows past the limit too
+        for (int round = 0; round < 20; round++) {
+            for (String method : calls.keySet()) {
+                int deepest = 0;
+                for (String called : calls.get(method)) {
+                    boolean isKeyword = called.matches("if|for|while|switch|return");
+                    deepest = Math.max(deepest, isKeyword ? 0 : depths.getOrDefault(called, 1));
+                }
+                depths.put(method, deepest + 1);
+            }
+        }
+        return depths.values().stream().max(Integer::compare).orElse(0);
     }
 
     private static String longMethod(String code) {
