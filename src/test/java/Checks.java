@@ -7,29 +7,46 @@ final class Checks {
     private int wrong = 0;
 
     void promise(int number, String name) {
-        promise = "promise " + number + " (" + name + ")";
+        label("promise " + number + " (" + name + ")");
+    }
+
+    void label(String text) {
+        promise = text;
+    }
+
+    int count() {
+        return count;
     }
 
     void due(Object want, Supplier<Object> call) {
-        Object got;
+        same(want, answer(call));
+    }
+
+    /** What the call answers, or the class of what it throws. */
+    static Object answer(Supplier<Object> call) {
         try {
-            got = call.get();
+            return call.get();
         } catch (RuntimeException thrown) {
-            got = thrown.getClass();
+            return thrown.getClass();
         }
-        same(want, got);
     }
 
     void same(Object want, Object got) {
         count++;
         if (!want.equals(got)) {
             wrong++;
-            StackTraceElement line = new Throwable().getStackTrace()[1];
-            if (line.getClassName().equals("Checks")) {
-                line = new Throwable().getStackTrace()[2];
-            }
-            System.out.println(promise + " at " + line + ": answered " + got + ", due is " + want);
+            System.out.println(promise + " at " + lineOfTheTest() + ": answered " + got + ", due is " + want);
         }
+    }
+
+    private static StackTraceElement lineOfTheTest() {
+        StackTraceElement[] lines = new Throwable().getStackTrace();
+        for (StackTraceElement line : lines) {
+            if (!line.getClassName().matches("Checks|Boundaries")) {
+                return line;
+            }
+        }
+        return lines[0];
     }
 
     void close(String name) {

@@ -57,4 +57,85 @@ final class Halls {
         }
         return state.toString();
     }
+
+    /** Seven guests, in whose hall most kinds of calls have left something. */
+    static HatReservations settled() {
+        HatReservations hall = with(9, 2, 0, 0, 3, 1, 3, 0, 5, 2, 0, 0, 1, 1);
+        hall.placeHat(0, 15);
+        hall.leaveCoat(1, 15);
+        hall.leaveCoat(4, 15);
+        hall.save();
+        hall.placeHat(2, 0);
+        hall.placeHat(3, 39);
+        hall.leaveCoat(5, 15);
+        hall.leaveCoat(6, 13);
+        hall.pass(20);
+        hall.touchHat(2);
+        Checks.answer(() -> run(hall, "pass x"));
+        Checks.answer(() -> run(hall, "pass 1;lift 1"));
+        hall.describeRow(1);
+        return hall;
+    }
+
+    /** The settled hall with a command text begun. */
+    static HatReservations busy() {
+        HatReservations hall = settled();
+        write(hall, "pa");
+        return hall;
+    }
+
+    /** The busy hall with an eighth guest. */
+    static HatReservations full() {
+        HatReservations hall = busy();
+        hall.addGuest(4, 1);
+        return hall;
+    }
+
+    /** The settled hall without a change that can be undone. */
+    static HatReservations restored() {
+        HatReservations hall = settled();
+        hall.save();
+        hall.restore();
+        return hall;
+    }
+
+    /** The settled hall with a command text of 60 characters. */
+    static HatReservations written() {
+        HatReservations hall = settled();
+        write(hall, "pass 1;pass 2;pass 3;pass 4;pass 5;pass 6;pass 7;pass 8;pass");
+        return hall;
+    }
+
+    /** What is neither undone nor saved, but for the command text. */
+    static String remarks(HatReservations hall) {
+        StringBuilder remarks = new StringBuilder();
+        remarks.append(Checks.answer(() -> hall.errorPosition())).append(' ');
+        remarks.append(Checks.answer(() -> hall.failedCommand())).append(' ');
+        remarks.append(Checks.answer(() -> hall.failedException())).append(' ');
+        for (int index = 0; index < 10; index++) {
+            int place = index;
+            remarks.append(Checks.answer(() -> hall.lineAt(place)));
+        }
+        return remarks.toString();
+    }
+
+    /** The changes that can be undone, the command text and the snapshot, all of which this uses up. */
+    static String memory(HatReservations hall) {
+        StringBuilder memory = new StringBuilder();
+        Object left = Checks.answer(() -> hall.undo());
+        for (int change = 0; change < 10 && left instanceof Integer; change++) {
+            memory.append(left).append(' ').append(hall.guestCount()).append(' ').append(hall.coveredMask());
+            memory.append(' ').append(hall.now()).append('\n');
+            left = Checks.answer(() -> hall.undo());
+        }
+        memory.append(Checks.answer(() -> write(hall, "ss 7")));
+        memory.append(Checks.answer(() -> hall.run())).append(' ').append(hall.now()).append('\n');
+        memory.append(Checks.answer(() -> hall.restore())).append('\n').append(state(hall));
+        return memory.toString();
+    }
+
+    /** All that can be told of a hall, which this uses up. */
+    static String everything(HatReservations hall) {
+        return state(hall) + "\n" + remarks(hall) + "\n" + memory(hall);
+    }
 }
