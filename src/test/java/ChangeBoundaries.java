@@ -170,8 +170,26 @@ final class ChangeBoundaries extends Boundaries {
             int minutes = changes - undoable;
             due(STATE, () -> hall.undo());
             due(minutes, () -> hall.now());
+            withRefusedRuns(changes);
         }
         eachKindOnce();
+    }
+
+    /** Runs that fail are no changes, and take none of the latest 8 away. */
+    private void withRefusedRuns(int changes) {
+        HatReservations hall = passed(changes);
+        due(STATE, () -> Halls.run(hall, "pass 60;pass 60;lift 0"));
+        due(ARGUMENT, () -> Halls.run(hall, "pass 60;"));
+        due(STATE, () -> Halls.run(hall, "pass 60;pass 0"));
+        due(changes, () -> hall.now());
+        int undoable = Math.min(8, changes);
+        for (int undone = 1; undone <= undoable; undone++) {
+            int left = undoable - undone;
+            int minutes = changes - undone;
+            due(left, () -> hall.undo());
+            due(minutes, () -> hall.now());
+        }
+        due(STATE, () -> hall.undo());
     }
 
     /** Nine changes of nine kinds: all but the first one can be undone. */

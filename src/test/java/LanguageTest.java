@@ -1,4 +1,7 @@
 import java.io.IOException;
+import java.lang.reflect.Field;
+import java.lang.reflect.Method;
+import java.lang.reflect.Modifier;
 import java.nio.file.Files;
 import java.nio.file.Path;
 import java.util.Map;
@@ -35,7 +38,54 @@ public final class LanguageTest {
         checks.same("no long method", longMethod(code));
         System.out.println("the deepest calls go " + deepestCall(callsByMethod(code)) + " deep");
         checks.same(true, deepestCall(callsByMethod(code)) <= 8);
+        checks.same("no other call", otherCall(code));
+        sizes(checks);
         checks.close("LanguageTest");
+    }
+
+    /** A call of the library that is not among those of rule 4 that the class needs. */
+    private static String otherCall(String code) {
+        String library = "\\b(?:String|Integer|Long|Math|System|Arrays|Character|List|Boolean)\\.\\w+";
+        Matcher call = Pattern.compile(library).matcher(code);
+        while (call.find()) {
+            if (!call.group().matches("Long\\.bitCount|Math\\.(max|min)|System\\.arraycopy")) {
+                return call.group();
+            }
+        }
+        return "no other call";
+    }
+
+    /** Rules 1 and 11: the names of private methods, and how large the classes are. */
+    private static void sizes(Checks checks) {
+        Class<?>[] inside = HatReservations.class.getDeclaredClasses();
+        checks.same(true, inside.length + 1 <= 12);
+        Set<String> face = new TreeSet<>();
+        for (Method method : HatReservations.class.getDeclaredMethods()) {
+            if (Modifier.isPublic(method.getModifiers())) {
+                face.add(method.getName());
+            }
+        }
+        for (Method method : HatReservations.class.getDeclaredMethods()) {
+            checks.same(false, !Modifier.isPublic(method.getModifiers()) && face.contains(method.getName()));
+        }
+        for (Class<?> own : inside) {
+            checks.same(false, Modifier.isPublic(own.getModifiers()) || Modifier.isProtected(own.getModifiers()));
+            checks.same(true, Modifier.isStatic(own.getModifiers()));
+            for (Method method : own.getDeclaredMethods()) {
+                checks.same("", face.contains(method.getName()) ? method.getName() : "");
+                checks.same(true, method.getParameterCount() <= 7);
+            }
+            checks.same(true, countFields(own) <= 20);
+        }
+        checks.same(true, countFields(HatReservations.class) <= 20);
+    }
+
+    private static int countFields(Class<?> own) {
+        int count = 0;
+        for (Field field : own.getDeclaredFields()) {
+            count += Modifier.isStatic(field.getModifiers()) ? 0 : 1;
+        }
+        return count;
     }
 
     /** The names that each method calls, as if no two methods had one name. */
