@@ -5,10 +5,15 @@ import java.util.ArrayList;
 import java.util.List;
 import java.util.Map;
 import java.util.TreeMap;
+import java.util.regex.Matcher;
+import java.util.regex.Pattern;
 
 /** The sentences of the document by their sections; it is read where src stands. */
 final class Document {
     static final Path PLACE = Path.of("../shared/DOC.md");
+
+    private static final Pattern METHOD =
+            Pattern.compile("    public (\\w+ \\w+)\\((.*)\\)(?: throws (.*))?;");
 
     private Document() {
     }
@@ -27,6 +32,20 @@ final class Document {
             }
         }
         return sections;
+    }
+
+    /** The methods of the public face, each as "int sweep(int) IllegalArgumentException". */
+    static List<String> face() throws IOException {
+        List<String> face = new ArrayList<>();
+        for (String line : Files.readAllLines(PLACE)) {
+            Matcher method = METHOD.matcher(line);
+            if (method.matches()) {
+                String parameters = method.group(2).replaceAll("(\\w+) \\w+", "$1");
+                String thrown = method.group(3) == null ? "" : " " + method.group(3).replace(",", "");
+                face.add(method.group(1) + "(" + parameters + ")" + thrown);
+            }
+        }
+        return face;
     }
 
     private static List<String> split(String line) {

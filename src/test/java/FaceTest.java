@@ -1,67 +1,13 @@
+import java.io.IOException;
 import java.lang.reflect.Constructor;
 import java.lang.reflect.Field;
 import java.lang.reflect.Method;
 import java.lang.reflect.Modifier;
-import java.util.Arrays;
 import java.util.TreeSet;
 
 /** The public face is the document's, and there is nothing beside it. */
 public final class FaceTest {
-    private static final String[] FACE = {
-        "int addGuest(int, int) IllegalArgumentException IllegalStateException",
-        "int giveFeather(int) IndexOutOfBoundsException IllegalStateException",
-        "int placeHat(int, int) IndexOutOfBoundsException IllegalStateException UnsupportedOperationException",
-        "int removeHat(int) IndexOutOfBoundsException NoSuchElementException",
-        "int touchHat(int) IndexOutOfBoundsException NoSuchElementException",
-        "int guestCount()",
-        "int feathers(int) IndexOutOfBoundsException",
-        "int brim(int) IndexOutOfBoundsException",
-        "boolean isPlaced(int) IndexOutOfBoundsException",
-        "int hatChair(int) IndexOutOfBoundsException NoSuchElementException",
-        "int coverSize(int) IndexOutOfBoundsException",
-        "int idleMinutes(int) IndexOutOfBoundsException NoSuchElementException",
-        "int leaveCoat(int, int) IndexOutOfBoundsException IllegalStateException UnsupportedOperationException",
-        "int takeCoat(int) IndexOutOfBoundsException NoSuchElementException",
-        "boolean hasCoatLeft(int) IndexOutOfBoundsException",
-        "int coatChair(int) IndexOutOfBoundsException NoSuchElementException",
-        "int coatCount(int) IndexOutOfBoundsException",
-        "int coatOwner(int, int) IndexOutOfBoundsException NoSuchElementException",
-        "int nextClaimant(int) IndexOutOfBoundsException NoSuchElementException",
-        "int nextClaimantByTime(int) IndexOutOfBoundsException NoSuchElementException",
-        "boolean contest(int, int) IndexOutOfBoundsException NoSuchElementException IllegalStateException",
-        "boolean wouldWin(int, int) IndexOutOfBoundsException",
-        "int pass(int) IllegalArgumentException",
-        "int sweep(int) IllegalArgumentException",
-        "int now()",
-        "int idlestGuest() NoSuchElementException",
-        "boolean isCovered(int) IndexOutOfBoundsException",
-        "int covererOf(int) IndexOutOfBoundsException NoSuchElementException",
-        "long coveredMask()",
-        "int coveredCount()",
-        "int coveredCountByHat()",
-        "int longestFreeRun(int) IndexOutOfBoundsException",
-        "int longestFreeRunByMask(int) IndexOutOfBoundsException",
-        "int guestAtRank(int) NoSuchElementException",
-        "int sweptTotal()",
-        "int lapsedTotal()",
-        "int offersTaken()",
-        "int contestsWon()",
-        "int append(char) IllegalArgumentException IllegalStateException",
-        "int run() IllegalArgumentException IllegalStateException",
-        "int errorPosition() NoSuchElementException",
-        "int failedCommand() NoSuchElementException",
-        "int failedException() NoSuchElementException",
-        "int describeRow(int) IndexOutOfBoundsException",
-        "char lineAt(int) IndexOutOfBoundsException",
-        "double meanCover() ArithmeticException",
-        "float coveredShare()",
-        "boolean isConsistent()",
-        "int undo() IllegalStateException",
-        "int save()",
-        "int restore() IllegalStateException",
-    };
-
-    public static void main(String[] args) {
+    public static void main(String[] args) throws IOException {
         Checks checks = new Checks();
         checks.promise(0, "the public face");
         Class<HatReservations> face = HatReservations.class;
@@ -73,7 +19,8 @@ public final class FaceTest {
                 found.add(describe(method));
             }
         }
-        checks.same(new TreeSet<>(Arrays.asList(FACE)), found);
+        checks.same(51, found.size());
+        checks.same(new TreeSet<>(Document.face()), found);
         for (Field field : face.getDeclaredFields()) {
             checks.same(true, Modifier.isPrivate(field.getModifiers()));
         }
